@@ -50,11 +50,7 @@ public final class RulesTest {
             methods.add(method.getName() + "(" + arguments + ")");
         }
         checks.same("face", methods.toString(), new TreeSet<>(Arrays.asList(FACE)).toString());
-        for (String name : names) {
-            for (String shown : FACE) {
-                checks.due(name + " is no public name", shown.startsWith(name + "(") ? 1 : 0, 0);
-            }
-        }
+        privateNames(names);
         TreeSet<String> constants = new TreeSet<>();
         for (Field field : type.getDeclaredFields()) {
             if (!Modifier.isPrivate(field.getModifiers())) {
@@ -63,6 +59,14 @@ public final class RulesTest {
             checks.due(field + " is no changing static", isChangingStatic(field) ? 1 : 0, 0);
         }
         checks.same("constants", constants.toString(), "[BAD_VALUE, FULL, NONE, NOT_POSSIBLE, UNKNOWN]");
+    }
+
+    private static void privateNames(List<String> names) {
+        for (String name : names) {
+            for (String shown : FACE) {
+                checks.due(name + " is no public name", shown.startsWith(name + "(") ? 1 : 0, 0);
+            }
+        }
     }
 
     private static void nestedClasses() {
@@ -75,6 +79,11 @@ public final class RulesTest {
             for (Field field : type.getDeclaredFields()) {
                 checks.due(field + " is no changing static", isChangingStatic(field) ? 1 : 0, 0);
             }
+            List<String> names = new ArrayList<>();
+            for (Method method : type.getDeclaredMethods()) {
+                names.add(method.getName());
+            }
+            privateNames(names);
         }
     }
 

@@ -305,6 +305,25 @@ public final class ToldTest {
         checks.due("bestSeed: of a line ahead of it", bench.bestSeed(1, 0, 0), 1);
         checks.due("bestSeed: of a line ahead of it, the error", bench.bestSeed(1, 0, 1), bench.line(0, 7));
         bestSeedWrong(bench);
+        bestSeedAtTheEdges();
+    }
+
+    /** Over 1 tick a seed up to the share makes a 1, a greater one a 0. */
+    private static void bestSeedAtTheEdges() {
+        ShareStreams bench = new ShareStreams();
+        bench.source(64, 1);
+        bench.source(254, 1);
+        bench.gate(1, 0, 1);
+        bench.source(127, 200);
+        bench.source(129, 200);
+        bench.setLength(1);
+        // The exact share is 16384 * 65024 / 65536 = 16256, nearer to 0, which 255 alone makes.
+        checks.due("bestSeed: the last one", bench.bestSeed(1, 2, 0), 255);
+        checks.due("bestSeed: the last one, the error", bench.bestSeed(1, 2, 1), 16256);
+        checks.due("bestSeed: the lowest of those above the share", bench.bestSeed(3, 3, 0), 128);
+        checks.due("bestSeed: the lowest of those above the share, the error", bench.bestSeed(3, 3, 1), 32512);
+        checks.due("bestSeed: the lowest of those up to the share", bench.bestSeed(4, 4, 0), 1);
+        checks.due("bestSeed: the lowest of those up to the share, the error", bench.bestSeed(4, 4, 1), 32512);
     }
 
     private static void bestSeedWrong(ShareStreams bench) {
