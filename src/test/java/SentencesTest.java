@@ -2,28 +2,43 @@ import java.io.IOException;
 import java.lang.reflect.Method;
 import java.nio.file.Files;
 import java.nio.file.Path;
+import java.util.ArrayList;
+import java.util.BitSet;
+import java.util.List;
 import java.util.Set;
 import java.util.TreeSet;
 import java.util.regex.Matcher;
 import java.util.regex.Pattern;
 
-/** SENTENCES.md names tests that are there, and it names each test of an edge. */
+/**
+ * SENTENCES.md goes through the whole document in its own words and its own order, it names tests
+ * that are there, and it names each test of the document.
+ */
 public final class SentencesTest {
     private static final Path LIST = Path.of("src/test/SENTENCES.md");
-    private static final Class<?>[] TESTS = {EdgesOfArgumentsTest.class, EdgesOfFindingsTest.class,
+    private static final Path DOCUMENT = Path.of("../shared/DOC.md");
+    /** The tests of the document, each of whose methods is to be listed. */
+    private static final Class<?>[] TESTS = {CircuitTest.class, EdgesOfArgumentsTest.class, EdgesOfFindingsTest.class,
         EdgesOfHistoryTest.class, EdgesOfLinesTest.class, EdgesOfSharesTest.class, EdgesOfTextsTest.class,
-        FirstQuestionTest.class, OrderOfErrorsTest.class, RefusedCallsTest.class};
+        FirstQuestionTest.class, HistoryTest.class, LinesTest.class, OrderOfErrorsTest.class, RefusedCallsTest.class,
+        ToldTest.class};
+    private static final Class<?>[] OTHERS = {RulesTest.class};
+
+    private static final Checks checks = new Checks();
 
     public static void main(String[] args) throws IOException {
-        Checks checks = new Checks();
+        String list = Files.readString(LIST);
+        testsAreThere(list);
+        sentencesAreListed(list, Files.readString(DOCUMENT));
+        checks.end();
+    }
+
+    private static void testsAreThere(String list) throws IOException {
         Set<String> there = new TreeSet<>();
-        for (Class<?> test : TESTS) {
-            for (Method method : test.getDeclaredMethods()) {
-                there.add(test.getName() + "." + method.getName());
-            }
-        }
+        addMethods(there, TESTS);
+        addMethods(there, OTHERS);
         Set<String> listed = new TreeSet<>();
-        Matcher matcher = Pattern.compile("`(\\w+Test\\.\\w+)`").matcher(Files.readString(LIST));
+        Matcher matcher = Pattern.compile("`(\\w+Test\\.\\w+)`").matcher(list);
         while (matcher.find()) {
             listed.add(matcher.group(1));
             checks.due(matcher.group(1) + " is there", there.contains(matcher.group(1)) ? 1 : 0, 1);
@@ -33,10 +48,17 @@ public final class SentencesTest {
                 checks.due(name + " is listed", listed.contains(name) ? 1 : 0, 1);
             }
         }
-        checks.end();
     }
 
-    /** The methods without arguments that a test's main calls, but for the last one, checks.end(). */
+    private static void addMethods(Set<String> there, Class<?>[] tests) {
+        for (Class<?> test : tests) {
+            for (Method method : test.getDeclaredMethods()) {
+                there.add(test.getName() + "." + method.getName());
+            }
+        }
+    }
+
+    /** The methods without arguments that a test's main calls. */
     private static Set<String> calledFirst(Class<?> test) throws IOException {
         String source = Files.readString(Path.of("src/test/java/" + test.getName() + ".java"));
         String main = source.substring(source.indexOf("void main("));
@@ -47,5 +69,57 @@ public final class SentencesTest {
             called.add(test.getName() + "." + matcher.group(1));
         }
         return called;
+    }
+
+    private static void sentencesAreListed(String list, String document) {
+        String whole = inOneLine(document);
+        BitSet quoted = new BitSet();
+        int reached = 0;
+        for (String quote : quotesOf(list)) {
+            int place = whole.indexOf(quote, reached);
+            checks.due("'" + quote + "' stands in the document, behind the one ahead of it", place < 0 ? 0 : 1, 1);
+            if (place >= 0) {
+                reached = place + quote.length();
+                quoted.set(place, reached);
+            }
+        }
+        int end = 0;
+        for (String clause : clausesOf(document)) {
+            int place = whole.indexOf(clause, end);
+            end = place + clause.length();
+            checks.due("'" + clause + "' is listed", quoted.get(place, end).isEmpty() ? 0 : 1, 1);
+        }
+        checks.due("there are clauses", end > whole.length() / 2 ? 1 : 0, 1);
+    }
+
+    private static String inOneLine(String text) {
+        return text.replaceAll("\\s+", " ");
+    }
+
+    /** The first column of each table, cut where words are left out. */
+    private static List<String> quotesOf(String list) {
+        List<String> quotes = new ArrayList<>();
+        for (String line : list.split("\n")) {
+            if (line.startsWith("| ") && !line.startsWith("| ---") && !line.startsWith("| sentence |")) {
+                String[] columns = line.substring(2).split(" \\| ");
+                checks.due("'" + line + "' has its tests", columns.length, 2);
+                quotes.addAll(List.of(columns[0].split(" \\.\\. ")));
+            }
+        }
+        return quotes;
+    }
+
+    /** All that the document says, but for headings and the code of the face, up to each ".", ":" or ";". */
+    private static List<String> clausesOf(String document) {
+        List<String> clauses = new ArrayList<>();
+        boolean isCode = false;
+        for (String line : document.split("\n")) {
+            if (line.startsWith("```")) {
+                isCode = !isCode;
+            } else if (!isCode && !line.startsWith("#") && !line.isBlank()) {
+                clauses.addAll(List.of(inOneLine(line.strip()).split("(?<=[.:;]) ")));
+            }
+        }
+        return clauses;
     }
 }
