@@ -3,7 +3,6 @@ import java.lang.reflect.Method;
 import java.nio.file.Files;
 import java.nio.file.Path;
 import java.util.ArrayList;
-import java.util.BitSet;
 import java.util.List;
 import java.util.Set;
 import java.util.TreeSet;
@@ -71,55 +70,44 @@ public final class SentencesTest {
         return called;
     }
 
+    /** The document is read from its first word to its last: what stands between two rows is no word. */
     private static void sentencesAreListed(String list, String document) {
-        String whole = inOneLine(document);
-        BitSet quoted = new BitSet();
+        String words = withoutHeadings(document);
         int reached = 0;
-        for (String quote : quotesOf(list)) {
-            int place = whole.indexOf(quote, reached);
-            checks.due("'" + quote + "' stands in the document, behind the one ahead of it", place < 0 ? 0 : 1, 1);
-            if (place >= 0) {
-                reached = place + quote.length();
-                quoted.set(place, reached);
+        for (String sentence : sentencesOf(list)) {
+            boolean isFirst = true;
+            for (String quote : sentence.split(" \\.\\. ")) {
+                int place = words.indexOf(quote, reached);
+                checks.due("'" + quote + "' stands in the document, behind the one ahead of it", place < 0 ? 0 : 1, 1);
+                if (place >= 0) {
+                    isListed(isFirst ? words.substring(reached, place) : "");
+                    reached = place + quote.length();
+                }
+                isFirst = false;
             }
         }
-        int end = 0;
-        for (String clause : clausesOf(document)) {
-            int place = whole.indexOf(clause, end);
-            end = place + clause.length();
-            checks.due("'" + clause + "' is listed", quoted.get(place, end).isEmpty() ? 0 : 1, 1);
-        }
-        checks.due("there are clauses", end > whole.length() / 2 ? 1 : 0, 1);
+        isListed(words.substring(reached));
     }
 
-    private static String inOneLine(String text) {
-        return text.replaceAll("\\s+", " ");
+    private static void isListed(String between) {
+        boolean hasWords = Pattern.compile("\\w").matcher(between).find();
+        checks.due("the list has no '" + between + "'", hasWords ? 1 : 0, 0);
     }
 
-    /** The first column of each table, cut where words are left out. */
-    private static List<String> quotesOf(String list) {
-        List<String> quotes = new ArrayList<>();
+    private static String withoutHeadings(String document) {
+        return document.replaceAll("(?m)^(#|```).*$", "").replaceAll("\\s+", " ");
+    }
+
+    /** The first column of each table, where ".." stands for words that are left out. */
+    private static List<String> sentencesOf(String list) {
+        List<String> sentences = new ArrayList<>();
         for (String line : list.split("\n")) {
             if (line.startsWith("| ") && !line.startsWith("| ---") && !line.startsWith("| sentence |")) {
                 String[] columns = line.substring(2).split(" \\| ");
                 checks.due("'" + line + "' has its tests", columns.length, 2);
-                quotes.addAll(List.of(columns[0].split(" \\.\\. ")));
+                sentences.add(columns[0]);
             }
         }
-        return quotes;
-    }
-
-    /** All that the document says, but for headings and the code of the face, up to each ".", ":" or ";". */
-    private static List<String> clausesOf(String document) {
-        List<String> clauses = new ArrayList<>();
-        boolean isCode = false;
-        for (String line : document.split("\n")) {
-            if (line.startsWith("```")) {
-                isCode = !isCode;
-            } else if (!isCode && !line.startsWith("#") && !line.isBlank()) {
-                clauses.addAll(List.of(inOneLine(line.strip()).split("(?<=[.:;]) ")));
-            }
-        }
-        return clauses;
+        return sentences;
     }
 }
